@@ -131,7 +131,7 @@ public final class LeanStair {
             case 4: return now.plan.byOf[p];
             case 5: return now.plan.mateOf[p];
             case 6: return now.isThere(p) ? 1 : 0;
-            case 7: return now.isThere(p) ? scales.bearing(now, p, now.buildOf[p], now.isWed(p, now.there), 0) : 0;
+            case 7: return now.isThere(p) ? scales.bearing(now, p, now.buildOf[p], now.isWed(p, now.there)) : 0;
             default: return NO_SUCH;
         }
     }
@@ -155,12 +155,9 @@ public final class LeanStair {
         return scales.row[k];
     }
 
+    /** Whatever changes the scene settles whether it is fallen, so that tells whether it stands. */
     public int stands() {
-        return now.fallen || spareNow() < 0 ? 0 : 1;
-    }
-
-    private int spareNow() {
-        return scales.slackLater(now, 0);
+        return now.fallen ? 0 : 1;
     }
 
     public int crack(int what) {
@@ -178,7 +175,7 @@ public final class LeanStair {
     }
 
     public int spare() {
-        return spareNow();
+        return scales.slackLater(now, 0);
     }
 
     // ---- deeds
@@ -419,18 +416,18 @@ public final class LeanStair {
     // ---- two clerks
 
     public int wins() {
-        if (stands() == 0) {
+        if (now.fallen) {
             return NOT_NOW;
         }
         return sets.play(now) > 0 ? 1 : 0;
     }
 
     public int best() {
-        return stands() == 0 ? NOT_NOW : sets.winningMove(now);
+        return now.fallen ? NOT_NOW : sets.winningMove(now);
     }
 
     public int lasts() {
-        if (stands() == 0) {
+        if (now.fallen) {
             return NOT_NOW;
         }
         int outcome = sets.play(now);
@@ -1164,29 +1161,24 @@ public final class LeanStair {
                     }
                 } else if (top >= 2) {
                     top--;
-                    stack[top - 1] = joined(op - OPS, stack[top - 1], stack[top]);
+                    // In long, as two numbers of a million each come to more than an int holds.
+                    long a = stack[top - 1];
+                    long b = stack[top];
+                    long v;
+                    switch (op - OPS) {
+                        case '+': v = a + b; break;
+                        case '-': v = a - b; break;
+                        case '*': v = a * b; break;
+                        case '=': v = a == b ? 1 : 0; break;
+                        case '<': v = a < b ? 1 : 0; break;
+                        case '>': v = a > b ? 1 : 0; break;
+                        case AND: v = a & b; break;
+                        default: v = a | b; break;
+                    }
+                    stack[top - 1] = v > MOST ? MOST : v < -MOST ? -MOST : (int) v;
                 }
             }
             return top > 0 ? stack[top - 1] : 0;
-        }
-
-        /** In long, as two numbers of a million each come to more than an int holds. */
-        private static int joined(int op, long a, long b) {
-            long v;
-            switch (op) {
-                case '+': v = a + b; break;
-                case '-': v = a - b; break;
-                case '*': v = a * b; break;
-                case '=': v = a == b ? 1 : 0; break;
-                case '<': v = a < b ? 1 : 0; break;
-                case '>': v = a > b ? 1 : 0; break;
-                case AND: v = a & b; break;
-                default: v = a | b; break;
-            }
-            if (v > MOST) {
-                return MOST;
-            }
-            return v < -MOST ? -MOST : (int) v;
         }
     }
 
@@ -1210,9 +1202,9 @@ public final class LeanStair {
             row = new int[STEPS];
         }
 
-        /** What p would bear if its build were so, its couple so, so many days later. */
-        int bearing(Scene s, int p, int build, int wed, int later) {
-            return strength(s.plan, p, build, s.ageOf(p) + later, s.stepOf[p], s.day + later, wed);
+        /** What p would bear today if its build were so and the other one of its couple were there or not. */
+        int bearing(Scene s, int p, int build, int wed) {
+            return strength(s.plan, p, build, s.ageOf(p), s.stepOf[p], s.day, wed);
         }
 
         /** What one would bear who is brought to step k today, so many days later. */
@@ -1247,7 +1239,9 @@ public final class LeanStair {
             fillProps(s);
             for (int p = 0; p < s.people; p++) {
                 if (s.isThere(p)) {
-                    row[s.stepOf[p]] += bearing(s, p, s.buildOf[p], s.isWed(p, s.there), later);
+                    int wed = s.isWed(p, s.there);
+                    int day = s.day + later;
+                    row[s.stepOf[p]] += strength(s.plan, p, s.buildOf[p], day - s.bornOn[p], s.stepOf[p], day, wed);
                 }
             }
             return slack(s);
@@ -1257,8 +1251,8 @@ public final class LeanStair {
         void weigh(Scene s) {
             for (int p = 0; p < s.people; p++) {
                 if (s.isThere(p)) {
-                    alone[p] = bearing(s, p, s.buildOf[p], 0, 0);
-                    paired[p] = s.plan.mateOf[p] == NONE ? alone[p] : bearing(s, p, s.buildOf[p], 1, 0);
+                    alone[p] = bearing(s, p, s.buildOf[p], 0);
+                    paired[p] = s.plan.mateOf[p] == NONE ? alone[p] : bearing(s, p, s.buildOf[p], 1);
                 }
             }
         }
@@ -1748,8 +1742,8 @@ public final class LeanStair {
             scales.weigh(s);
             int found = 0;
             for (int build = 0; build < BUILDS; build++) {
-                aloneBy[build] = scales.bearing(s, p, build, 0, 0);
-                pairedBy[build] = scales.bearing(s, p, build, 1, 0);
+                aloneBy[build] = scales.bearing(s, p, build, 0);
+                pairedBy[build] = scales.bearing(s, p, build, 1);
                 room[build] = agrees(s, tray, p, build);
                 if (room[build]) {
                     found++;
