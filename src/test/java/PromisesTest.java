@@ -418,6 +418,9 @@ public final class PromisesTest {
         due("bring(0, 0): nine in all, though one is gone", x.bring(0, 0), -12);
         due("bring(5, 0): no such step first", x.bring(5, 0), -11);
         due("count(2)", x.count(2), 0b111111101);
+        due("undo(1)", x.undo(1), x.count(10));
+        due("one less", x.count(1), 8);
+        due("not there", x.count(2), 0b11111101);
         x = told("stair 1;");
         due("bring(0, 5), fallen", x.bring(0, 5), -12);
 
@@ -426,6 +429,9 @@ public final class PromisesTest {
         due("move(2, 1)", x.move(2, 1), 1);
         due("person(2, 0)", x.person(2, 0), 1);
         due("move(2, 1): it is there", x.move(2, 1), -12);
+        x.undo(1);
+        due("undone", x.person(2, 0), 0);
+        x.move(2, 1);
         due("move(2, 2)", x.move(2, 2), -11);
         due("move(2, -1)", x.move(2, -1), -11);
         due("move(3, 0)", x.move(3, 0), -11);
@@ -724,6 +730,14 @@ public final class PromisesTest {
         served("stair 0;" + on + " by 1;" + on + " by 1;" + on + " by 1;" + on + " by 1;" + on + " by 0;" + on + " by 1;couple 0 1;couple 2 3;quota 3;", 6, 63);
         served("stair 0;" + on + " by 1;" + on + " by 1;" + on + " by 1;" + on + " by 1;" + on + " by 0;" + on + " by 0;couple 0 1;couple 2 3;quota 3;", 5, 31);
         served("stair 0;" + on + " by 3;may : 1 = 2;", 1, 1);
+        String couples = "couple 0 1;couple 2 3;couple 4 5;couple 6 7;";
+        String eight = "";
+        for (int i = 0; i < 8; i++) eight += on + " by 3;";
+        served("stair 0;" + eight + couples + "quota 2;", 8, 255);
+        served("stair 0;" + eight + couples + "quota 3;", 8, 255);
+        served("stair 0;" + eight + on + " by 3;" + couples + "quota 3;", 9, 511);
+        served("stair 0;" + eight.replace("by 3", "by 2") + couples + "quota 2;", 6, 63);
+        served("stair 0;" + eight + couples + "quota 1;", 4, 1 + 4 + 16 + 64);
         served("stair 5;person on 0 build 5 by 3;person on 0 build 5 by 3;", 1, 1);
         served("stair 5;person on 0 build 5 by 3;person on 0 build 4 by 3;", 1, 2);
         served("stair 5;person on 0 build 4 by 3;", -1, -1);
