@@ -1,48 +1,5 @@
-import java.nio.charset.StandardCharsets;
-
 /** Each promise of the document by itself; what is due was worked out by hand. */
-public final class PromisesTest {
-    private static int wrong = 0;
-    private static int asked = 0;
-    private static int promise = 0;
-
-    private static void due(String call, long got, long want) {
-        asked++;
-        if (got != want) {
-            wrong++;
-            System.out.println("promise " + promise + ": " + call + " answered " + got + ", due is " + want);
-        }
-    }
-
-    private static void feed(LeanStair x, byte[] text) {
-        for (int i = 0; i < text.length; i += 20) {
-            int[] v = new int[5];
-            for (int k = 0; k < 20; k++) v[k / 4] = v[k / 4] << 8 | (i + k < text.length ? text[i + k] & 255 : 32);
-            x.feed(v[0], v[1], v[2], v[3], v[4]);
-        }
-    }
-
-    private static int tell(LeanStair x, String text) {
-        byte[] bytes = text.getBytes(StandardCharsets.ISO_8859_1);
-        feed(x, bytes);
-        return x.stair(bytes.length);
-    }
-
-    private static LeanStair told(String text) {
-        LeanStair x = new LeanStair();
-        int lines = tell(x, text);
-        if (lines < 0) {
-            wrong++;
-            System.out.println("promise " + promise + ": the text has a fault: " + text);
-        }
-        return x;
-    }
-
-    private static void tray(LeanStair x, int tray, long... values) {
-        x.numbers(tray, 3, values.length);
-        for (int i = 0; i < values.length; i++) x.write(tray, i, values[i]);
-    }
-
+public final class PromisesTest extends Check {
     public static void main(String[] args) {
         stairPromises();
         deedPromises();
@@ -52,8 +9,11 @@ public final class PromisesTest {
         gamePromises();
         sharePromises();
         trayPromises();
-        System.out.println(asked + " answers asked for, " + wrong + " not as due");
-        if (wrong != 0) System.exit(1);
+        finish();
+    }
+
+    private static void promise(int n) {
+        about("promise " + n);
     }
 
     /** Two steps of 10; 8 and 15 stand on them; the joint passes 4 on. 2 to spare, by step 0. */
@@ -62,7 +22,7 @@ public final class PromisesTest {
     // ---- 1 to 9
 
     private static void stairPromises() {
-        promise = 1;
+        promise(1);
         LeanStair x = new LeanStair();
         int[] counts = {1, 0, 0, 0, 0, 1, 0, 0, 0, 0, 0, 0, 0};
         for (int what = 0; what < counts.length; what++) due("count(" + what + ")", x.count(what), counts[what]);
@@ -81,7 +41,7 @@ public final class PromisesTest {
         promise3();
         promise4();
 
-        promise = 5;
+        promise(5);
         x = told("stair 0 0 0;person on 2 build 41 age 33 frail 7 by 12;person on 1 build 5;person on 0 build 9 age 1 age 2;couple 0 2;"
             + "bears : build + wed * 100 + age - 40;day 4;");
         int[][] due5 = {{2, 41, 33, 7, 12, 2, 1, 134}, {1, 5, 0, 0, -1, -1, 1, 0}, {0, 9, 2, 0, -1, 0, 1, 71}};
@@ -113,7 +73,7 @@ public final class PromisesTest {
         due("person(0, 7) at least", x.person(0, 7), 0);
         laws();
 
-        promise = 6;
+        promise(6);
         x = told("stair 3 0 7;joint 1 takes 20;joint 0 takes 5;joint 1 takes 6;person on 0 build 8;person on 2 build 9;person on 2 build 1;");
         x.prop(2);
         x.prop(2);
@@ -126,7 +86,7 @@ public final class PromisesTest {
         x.see(1);
         due("step(2, 3)", x.step(2, 3), 4);
 
-        promise = 7;
+        promise(7);
         due("stands()", told(TWO).stands(), 1);
         due("stands(), just so", told("stair 10 0;joint 0 takes 4;person on 0 build 6;person on 1 build 4;").stands(), 1);
         due("stands(), the joint takes too little", told("stair 10 0;joint 0 takes 3;person on 0 build 6;person on 1 build 9;").stands(), 0);
@@ -135,7 +95,7 @@ public final class PromisesTest {
         due("stands(), from both ends, 1 too much", told("stair 9 0 9;joint 0 takes 9;joint 1 takes 9;person on 1 build 17;").stands(), 0);
         due("stands(), no joint told", told("stair 5 0;person on 1 build 50;").stands(), 0);
 
-        promise = 8;
+        promise(8);
         x = told(TWO);
         due("crack(0)", x.crack(0), -1);
         due("crack(1)", x.crack(1), -1);
@@ -152,7 +112,7 @@ public final class PromisesTest {
         due("crack(0), by the first step", x.crack(0), 0);
         due("crack(1), by the first step", x.crack(1), 1);
 
-        promise = 9;
+        promise(9);
         due("spare()", told(TWO).spare(), 2);
         due("spare(), fallen", told("stair 10 10;joint 0 takes 4;").spare(), -20);
         due("spare(), the whole", told("stair 10 10;joint 0 takes 50;person on 0 build 21;").spare(), 1);
@@ -161,7 +121,7 @@ public final class PromisesTest {
     }
 
     private static void promise2() {
-        promise = 2;
+        promise(2);
         LeanStair x = new LeanStair();
         due("feed", x.feed(0x73746169, 0x7220373b, 0x7175657a, -1, 0x80ff0001), 20);
         due("count(11)", x.count(11), 20);
@@ -179,9 +139,9 @@ public final class PromisesTest {
     }
 
     private static void promise3() {
-        promise = 3;
+        promise(3);
         LeanStair x = new LeanStair();
-        feed(x, "stair 5 6;   stair".getBytes(StandardCharsets.ISO_8859_1));
+        feed(x, "stair 5 6;   stair");
         due("stair(21)", x.stair(21), -3);
         due("stair(-1)", x.stair(-1), -3);
         due("count(11): the tape stays", x.count(11), 20);
@@ -219,17 +179,8 @@ public final class PromisesTest {
         due("seen is of the new stair", x.count(4), 0);
     }
 
-    private static void at(String text, int kind, int place) {
-        LeanStair x = new LeanStair();
-        int got = tell(x, text);
-        if (kind == 0) due("'" + text + "' read", got > 0 ? 1 : got, 1);
-        else due("'" + text + "' read", got, -30 - kind);
-        due("'" + text + "' fault(0)", x.fault(0), kind);
-        due("'" + text + "' fault(1)", x.fault(1), place);
-    }
-
     private static void promise4() {
-        promise = 4;
+        promise(4);
         String two = "stair 1 1;person on 0 build 1;person on 1 build 1;";
         int e = two.length();
         at("", 2, 0);
@@ -380,7 +331,7 @@ public final class PromisesTest {
     // ---- 10 to 18
 
     private static void deedPromises() {
-        promise = 10;
+        promise(10);
         LeanStair x = told("stair 1;person on 0 build 1;person on 0 build 2;person on 0 build 3 age 7;person on 0 build 4;quota 2;may : not who = 2 or age > 7;");
         due("see(4)", x.see(4), -11);
         due("see(-1)", x.see(-1), -11);
@@ -402,7 +353,7 @@ public final class PromisesTest {
         due("see(4)", x.see(4), -11);
         due("days(1)", x.days(1), -5);
 
-        promise = 11;
+        promise(11);
         x = told("stair 1 1;joint 0 takes 1;person on 0 build 2;quota 9;bears : 2 + age * 0 - wed + who * 0;");
         due("bring(2, 5)", x.bring(2, 5), -11);
         due("bring(-1, 5)", x.bring(-1, 5), -11);
@@ -424,7 +375,7 @@ public final class PromisesTest {
         x = told("stair 1;");
         due("bring(0, 5), fallen", x.bring(0, 5), -12);
 
-        promise = 12;
+        promise(12);
         x = told(TWO + "person on 0 build 0;");
         due("move(2, 1)", x.move(2, 1), 1);
         due("person(2, 0)", x.person(2, 0), 1);
@@ -445,7 +396,7 @@ public final class PromisesTest {
         x = told("stair 0 0 0;person on 0 build 1;");
         due("move(0, 2): not beside", x.move(0, 2), -12);
 
-        promise = 13;
+        promise(13);
         x = told("stair 0 9;person on 1 build 9;");
         due("prop(2)", x.prop(2), -11);
         due("prop(-1)", x.prop(-1), -11);
@@ -459,7 +410,7 @@ public final class PromisesTest {
         due("prop(2)", x.prop(2), -11);
         due("prop(0), fallen", told("stair 5;").prop(0), -12);
 
-        promise = 14;
+        promise(14);
         x = told("stair 20;person on 0 build 30;bears : build - age;day 5;");
         due("days(0)", x.days(0), -3);
         due("days(100)", x.days(100), -3);
@@ -480,7 +431,7 @@ public final class PromisesTest {
     }
 
     private static void promise15() {
-        promise = 15;
+        promise(15);
         LeanStair x = told(TWO);
         due("undo(1)", x.undo(1), -3);
         x.prop(0);
@@ -535,7 +486,7 @@ public final class PromisesTest {
     }
 
     private static void promise16() {
-        promise = 16;
+        promise(16);
         LeanStair x = told("stair 10 10;joint 0 takes 4;person on 0 build 8;person on 1 build 15;person on 1 build 3;may : not who = 1;");
         due("judge(4, 0)", x.judge(4, 0), -2);
         due("judge(-1, 0)", x.judge(-1, 0), -2);
@@ -585,7 +536,7 @@ public final class PromisesTest {
         tray(x, 1, 0, 77);
         judged(x, 1, 1, 1, 6, 1);
 
-        promise = 17;
+        promise(17);
         due("perform(4)", x.perform(4), -2);
         due("perform(-1)", x.perform(-1), -2);
         due("perform(2)", x.perform(2), -6);
@@ -599,7 +550,7 @@ public final class PromisesTest {
         due("undo(1)", x.undo(1), 0);
         due("count(2)", x.count(2), 7);
 
-        promise = 18;
+        promise(18);
         due("year(1, 0)", x.year(1, 0), -3);
         due("year(1, 41)", x.year(1, 41), -3);
         due("year(1, -1)", x.year(1, -1), -3);
@@ -650,7 +601,7 @@ public final class PromisesTest {
         LeanStair y = told(THREE + "bears : build - wed * 3;");
         LeanStair gone = told("stair 10;person on 0 build 4;");
 
-        promise = 19;
+        promise(19);
         int[] holding = {0, 0, 0, 1, 1, 1, 1, 1};
         int[] grudging = {0, 0, 0, 0, 1, 1, 1, 1};
         for (int set = 0; set < 8; set++) {
@@ -665,7 +616,7 @@ public final class PromisesTest {
         x.undo(1);
         due("holds(0), fallen", gone.holds(0), 0);
 
-        promise = 20;
+        promise(20);
         due("fewest(0)", x.fewest(0), 1);
         due("fewest(1)", x.fewest(1), 4);
         due("fewest(2)", x.fewest(2), -2);
@@ -678,20 +629,20 @@ public final class PromisesTest {
         due("fewest(1), the least of like ones", even.fewest(1), 3);
         due("fewest(1), nobody", told("stair 0;person on 0 build 2;").fewest(1), 0);
 
-        promise = 21;
+        promise(21);
         due("holdings()", x.holdings(), 5);
         due("holdings()", y.holdings(), 4);
         due("holdings(), none", gone.holdings(), 0);
         due("holdings(), all", told("stair 0;person on 0 build 2;person on 0 build 2;").holdings(), 4);
 
-        promise = 22;
+        promise(22);
         due("needed()", x.needed(), 0);
         due("needed(), y", y.needed(), 4);
         due("needed(), fallen", gone.needed(), 0);
         due("needed()", told(TWO).needed(), 3);
         due("needed(), if the other one bears less alone", told("stair 9;person on 0 build 3;person on 0 build 4;couple 0 1;bears : build + wed * 2;").needed(), 3);
 
-        promise = 23;
+        promise(23);
         due("most(0)", x.most(0), 2);
         due("most(1)", x.most(1), 3);
         due("most(2)", x.most(2), -2);
@@ -712,7 +663,7 @@ public final class PromisesTest {
     }
 
     private static void promise24() {
-        promise = 24;
+        promise(24);
         String on = "person on 0 build 0";
         served("stair 0;" + on + ";" + on + ";", 0, 0);
         served("stair 0;" + on + " by 0;" + on + " by 0;", 1, 1);
@@ -766,7 +717,7 @@ public final class PromisesTest {
     // ---- 25 to 30
 
     private static void insteadPromises() {
-        promise = 25;
+        promise(25);
         LeanStair x = told(TWO);
         due("instead(0)", x.instead(0), 6);
         due("instead(1)", x.instead(1), 12);
@@ -791,7 +742,7 @@ public final class PromisesTest {
         full.see(0);
         due("instead(1): there are 9, though one is gone", full.instead(1), -5);
 
-        promise = 26;
+        promise(26);
         x = told("stair 10 10;joint 0 takes 4;person on 0 build 12;person on 1 build 15;person on 1 build 6;");
         due("swap(0)", x.swap(0), 2);
         due("swap(20)", x.swap(20), 0);
@@ -805,7 +756,7 @@ public final class PromisesTest {
         due("swap(100), nine", full.swap(100), -3);
         due("swap(3), fallen but mended by it", told("stair 3;person on 0 build 1;").swap(3), 0);
 
-        promise = 27;
+        promise(27);
         x = told("stair 4 14 6;joint 0 takes 5;joint 1 takes 8;person on 0 build 50;person on 1 build 9;person on 2 build 40;");
         int[] more = {0, 1, 2};
         due("props(0)", x.props(0), 3);
@@ -823,7 +774,7 @@ public final class PromisesTest {
         due("props(17)", x.props(17), 100);
         due("props(0), none", told("stair 0 0;").props(0), 0);
 
-        promise = 28;
+        promise(28);
         x = told("stair 4 14 6;joint 0 takes 5;joint 1 takes 8;person on 1 build 3;");
         due("mends(0)", x.mends(0), 3);
         due("mends(10)", x.mends(10), 0);
@@ -837,7 +788,7 @@ public final class PromisesTest {
         due("mends(12)", x.mends(12), 1);
         due("mends(0), it stands", told(TWO).mends(0), 0);
 
-        promise = 29;
+        promise(29);
         due("sinks()", told("stair 20;person on 0 build 30;bears : build - age;").sinks(), 11);
         due("sinks(), in none", told(TWO).sinks(), -1);
         due("sinks(), now", told("stair 1;").sinks(), 0);
@@ -848,7 +799,7 @@ public final class PromisesTest {
         x.days(99);
         due("sinks(), never", x.sinks(), -1);
 
-        promise = 30;
+        promise(30);
         x = told("stair 10 10;person on 0 build 20;person on 1 build 15;bears : build - age;");
         due("stay(5): it is gone itself by then", x.stay(5), 0);
         due("stay(9)", x.stay(9), 1);
@@ -869,7 +820,7 @@ public final class PromisesTest {
 
     private static void roomPromises() {
         LeanStair x = told("stair 20;person on 0 build 5;person on 0 build 10;person on 0 build 9;couple 0 1;");
-        promise = 31;
+        promise(31);
         due("builds(4, 0)", x.builds(4, 0), -2);
         due("builds(-1, 0)", x.builds(-1, 0), -2);
         due("builds(0, 3)", x.builds(0, 3), -2);
@@ -914,7 +865,7 @@ public final class PromisesTest {
         due("builds(1, 0): a set with one who is gone first", y.builds(1, 0), -3);
         due("builds(0, 0), missing first", y.builds(0, 0), -6);
 
-        promise = 32;
+        promise(32);
         tray(x, 0, 1, 4);
         due("bound(0, 0, 0)", x.bound(0, 0, 0), 1);
         due("bound(0, 0, 1)", x.bound(0, 0, 1), 10);
@@ -934,7 +885,7 @@ public final class PromisesTest {
         tray(y, 1, 1);
         due("bound(1, 0, 0)", y.bound(1, 0, 0), -5);
 
-        promise = 33;
+        promise(33);
         // 1 to 99 are left: without the second one 11 to 99 stand, without the third 10 to 99.
         tray(x, 0, 1);
         due("trial(0, 0)", x.trial(0, 0), 1);
@@ -966,7 +917,7 @@ public final class PromisesTest {
     }
 
     private static void gamePromises() {
-        promise = 34;
+        promise(34);
         String on = "person on 0 build 1;";
         game("stair 0;", 0, -1, 0);
         game("stair 0;" + on, 1, 0, 1);
@@ -975,30 +926,30 @@ public final class PromisesTest {
         game("stair 1;" + on + on, 1, 0, 2);
         game("stair 1;" + on + on + on, 0, -1, 3);
         game("stair 0;" + on + on + on + "quota 1;may : 1 = 2;", 1, 0, 3);
-        promise = 35;
+        promise(35);
         // Without 0 the others just hold it: whoever is next falls.
         game("stair 5;person on 0 build 5;person on 0 build 4;person on 0 build 1;", 1, 0, 2);
         game("stair 5;person on 0 build 4;person on 0 build 1;person on 0 build 5;", 1, 2, 2);
         game("stair 5;person on 0 build 1;person on 0 build 6;", 1, 0, 2);
         game("stair 5;person on 0 build 1;person on 0 build 6;couple 0 1;bears : build - 2 + wed * 2;", 0, -1, 1);
-        promise = 36;
+        promise(36);
         // It wins by 0 too, but soonest by 3, without whom the others just hold it.
         game("stair 3;" + on + on + on + "person on 0 build 3;", 1, 0, 2);
         // It loses; by seeing a 1 it lasts for three, by seeing the 3 for one.
         game("stair 3;" + on + on + "person on 0 build 3;", 0, -1, 3);
         LeanStair x = told("stair 1;");
-        promise = 34;
+        promise(34);
         due("wins(), fallen", x.wins(), -5);
-        promise = 35;
+        promise(35);
         due("best(), fallen", x.best(), -5);
-        promise = 36;
+        promise(36);
         due("lasts(), fallen", x.lasts(), -5);
     }
 
     // ---- 37 to 40
 
     private static void sharePromises() {
-        promise = 37;
+        promise(37);
         LeanStair x = told("stair 3;person on 0 build 2;person on 0 build 1;person on 0 build 1;person on 0 build 0;");
         int[][] shares = {{3, 4}, {1, 4}, {1, 4}, {0, 1}};
         for (int p = 0; p < 4; p++) for (int what = 0; what < 2; what++) due("share(" + p + ", " + what + ")", x.share(p, what), shares[p][what]);
@@ -1016,7 +967,7 @@ public final class PromisesTest {
         due("share(0, 0): with the other one it isn't", x.share(0, 0), 1);
         due("share(0, 1)", x.share(0, 1), 2);
 
-        promise = 38;
+        promise(38);
         due("pillar()", told("stair 3;person on 0 build 1;person on 0 build 2;person on 0 build 1;").pillar(), 1);
         due("pillar(), the first", told("stair 1;person on 0 build 0;person on 0 build 1;person on 0 build 1;").pillar(), 1);
         due("pillar(), all 0", told("stair 0;person on 0 build 0;person on 0 build 1;").pillar(), 0);
@@ -1025,7 +976,7 @@ public final class PromisesTest {
         x.see(0);
         due("pillar(), who is there", x.pillar(), 1);
 
-        promise = 39;
+        promise(39);
         x = told("stair 3;person on 0 build 2 frail 5;person on 0 build 1 frail 2;person on 0 build 1 frail 3;");
         // With 0 (5 in 10) and 1 or 2 (94 in 100): 47 in 100.
         due("chance(0)", x.chance(0), 47);
@@ -1047,7 +998,7 @@ public final class PromisesTest {
         due("chance(0): just one of both", x.chance(0), 1);
         due("chance(1)", x.chance(1), 2);
 
-        promise = 40;
+        promise(40);
         x = told("stair 5 5;person on 0 build 5 frail 1;person on 1 build 5 frail 5;");
         due("where(5)", x.where(5), 1);
         due("where(0)", x.where(0), 0);
@@ -1067,7 +1018,7 @@ public final class PromisesTest {
     // ---- 41 to 46
 
     private static void trayPromises() {
-        promise = 41;
+        promise(41);
         LeanStair x = told(TWO);
         due("numbers(-1, 0, 1)", x.numbers(-1, 0, 1), -2);
         due("numbers(4, 0, 1)", x.numbers(4, 0, 1), -2);
@@ -1090,7 +1041,7 @@ public final class PromisesTest {
         due("numbers(0, 0, 0)", x.numbers(0, 0, 0), 0);
         due("lists(0)", x.lists(0), 0);
 
-        promise = 42;
+        promise(42);
         due("write(-1, 0, 0)", x.write(-1, 0, 0), -2);
         due("write(4, 0, 0)", x.write(4, 0, 0), -2);
         due("write(3, 0, 0)", x.write(3, 0, 0), -6);
@@ -1110,7 +1061,7 @@ public final class PromisesTest {
         x.write(1, 0, 200);
         due("200 in 8 bits is no deed", x.judge(1, 1), 1);
 
-        promise = 43;
+        promise(43);
         due("lists(4)", x.lists(4), -2);
         due("lists(-1)", x.lists(-1), -2);
         due("lists(3)", x.lists(3), -6);
@@ -1147,7 +1098,7 @@ public final class PromisesTest {
     }
 
     private static void promise44() {
-        promise = 44;
+        promise(44);
         LeanStair x = told(TWO);
         due("image(2)", x.image(2), -2);
         due("image(-1)", x.image(-1), -2);
@@ -1155,7 +1106,7 @@ public final class PromisesTest {
         x.days(2);
         due("image(0)", x.image(0), 0);
         due("count(10): what can be undone stays", x.count(10), 2);
-        promise = 45;
+        promise(45);
         due("restore(2)", x.restore(2), -2);
         due("restore(-1)", x.restore(-1), -2);
         due("restore(1)", x.restore(1), -5);
@@ -1193,7 +1144,7 @@ public final class PromisesTest {
     }
 
     private static void promise46() {
-        promise = 46;
+        promise(46);
         LeanStair x = told("stair 7 8 9;joint 0 takes 3;joint 1 takes 3;person on 0 build 20;person on 1 build 21;person on 2 build 22;person on 2 build 2;quota 3;day 30;");
         x.prop(0);
         x.prop(2);
