@@ -767,8 +767,8 @@ public final class LeanStair {
         private static final int NESTED = 6;
 
         /** A sign by its own number, a word from FIRST_WORD on, a number from NUMBER on. */
-        private int[] kinds;
-        private int[] places;
+        private final int[] kinds;
+        private final int[] places;
         private int tokens;
         private int at;
         private int kind;
@@ -778,14 +778,14 @@ public final class LeanStair {
         int place;
 
         Reader() {
-            kinds = new int[0];
-            places = new int[0];
+            kinds = new int[TAPE + 1];
+            places = new int[TAPE + 1];
             plan = new Plan(0);
         }
 
         /** What it returns is whole only if fault is 0. */
         Plan read(byte[] tape, int n) {
-            int length = Math.max(0, Math.min(n, tape.length));
+            int length = Math.max(0, Math.min(n, Math.min(tape.length, kinds.length - 1)));
             split(tape, length);
             fault = 0;
             place = NONE;
@@ -803,8 +803,6 @@ public final class LeanStair {
 
         /** Splits the text into tokens, up to the first that is none, or to its end. */
         private void split(byte[] text, int length) {
-            kinds = new int[length + 1];
-            places = new int[length + 1];
             tokens = 0;
             boolean good = true;
             for (int i = 0; i < length && good; i++) {

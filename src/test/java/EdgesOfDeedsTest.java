@@ -114,6 +114,15 @@ public final class EdgesOfDeedsTest extends Runs {
         run(may + million + " + 1 > " + million + ";", "see(0)!-14");
         run(may + least + " - 1 < " + least + ";", "see(0)!-14");
         run(may + million + " - 1 < " + million + " and " + least + " + 1 > " + least + ";", "see(0)=0");
+        about("not ahead of and, and ahead of or");
+        run(may + "1 = 1 and 1 = 1;", "see(0)=0");
+        run(may + "1 = 1 and 1 = 2 or 1 = 2 and 1 = 1;", "see(0)!-14");
+        run(may + "1 = 1 or 1 = 1 and 1 = 2;", "see(0)=0");
+        run(may + "[1 = 1 or 1 = 1] and 1 = 2;", "see(0)!-14");
+        run(may + "not 1 = 2 and 1 = 2;", "see(0)!-14");
+        run(may + "not [1 = 2 and 1 = 2];", "see(0)=0");
+        run(may + "not 1 = 1 or 1 = 1;", "see(0)=0");
+        run(may + "not [1 = 1 or 1 = 1] or 1 = 2;", "see(0)!-14");
         about("= < > at what is equal");
         run(may + "5 = 5;", "see(0)=0");
         run(may + "5 = 6 or 6 = 5;", "see(0)!-14");
@@ -137,6 +146,9 @@ public final class EdgesOfDeedsTest extends Runs {
         about("a STEP BEARS what all on it BEAR together, and 10 for each PROP");
         run("stair 0 0;" + ON.repeat(9) + "bears : 999;", "step(0,1)=8991 step(1,1)=0 prop(0)=1 step(0,1)=9001 prop(1)=1 step(1,1)=10 prop(1)=2 step(1,1)=20 count(9)=9021 see(0)=8 step(0,1)=8002");
         run("stair 0;", "step(0,1)=0 prop(0)*99=99 step(0,1)=990");
+        about("BEARS: by the age and the DAY that are today");
+        run("stair 5;person on 0 build 5;bears : build - age;", "step(0,1)=5 count(9)=5 person(0,7)=5 crack(0)=-1 crack(1)=-1 spare()=0 sinks()=1 days(1)=1 step(0,1)=4 count(9)=4 person(0,7)=4 crack(0)=0 spare()=-1");
+        run("stair 6;" + ON + "bears : day;day 6;", "step(0,1)=6 count(9)=6 crack(0)=-1 spare()=0 sinks()=1 days(1)=1 step(0,1)=0 count(9)=0 crack(0)=0 spare()=-6");
     }
 
     private static void standing() {
@@ -287,6 +299,7 @@ public final class EdgesOfDeedsTest extends Runs {
         run(TWO, "prop(0) days(1) bring(0,5) undo(2)=1 count(1)=2 count(7)=0 count(6)=1 days(2) count(10)=2 undo(1)=1 count(7)=0");
         about("each as a whole");
         run(TWO, "days(99)=99 count(10)=1 undo(1)=0 count(7)=0 fill(0,200,201,-1,200) perform(0)=4 count(10)=1 undo(1)=0 count(6)=0 count(7)=0");
+        run(TWO, "prop(0)=1 bring(1,5)=2 fill(0,200,-1) perform(0)=2 year(0,1)=1 count(7)=2 undo(1)=3 count(7)=1 undo(1)=2 count(7)=0 count(6)=1 count(1)=3 undo(2)=0 count(1)=2");
         about("calls that did some: no other one counts");
         run(TWO, "fill(0,77,200) see(5) move(0,0) bring(0,100) prop(9) days(0) perform(0)=0 year(1,41) undo(1)!-3 count(10)=0 judge(0,0) holds(3) stands() image(0) feed(0,0,0,0,0) lists(0) count(10)=0");
         about("all but the text; trays, images, the tape stay as they are");
@@ -318,6 +331,7 @@ public final class EdgesOfDeedsTest extends Runs {
         deed(WIDE, 189, 1);
         deed(WIDE, 195, 1);
         deed(WIDE, 199, 1);
+        run("stair 0 0;" + ON + "person on 1 build 1;", "fill(0,110) judge(0,1)=0 perform(0)=1 person(1,0)=0 person(0,0)=0 fill(0,101,111) perform(0)=2 person(0,0)=1 person(1,0)=1");
         run(WIDE, "fill(0,187,175) perform(0)=2 person(8,0)=7 person(7,0)=5 count(10)=1");
         about("DEEDS: 200 to 209: STEP v - 200 is PROPPED");
         deed(WIDE, 200, 0);
@@ -351,6 +365,7 @@ public final class EdgesOfDeedsTest extends Runs {
         run(TWO + ON, "numbers(0,0,0) judge(0,0)=-1 judge(0,1)=0 judge(0,2)=7 judge(0,3)=0 fill(0,2) judge(0,0)=-1 judge(0,1)=0 judge(0,2)=3 judge(0,3)=0 fill(0,2,2) judge(0,0)=1 judge(0,1)=2 judge(0,2)=3");
         run("stair 0;", "numbers(0,3,40) judge(0,0)=0 judge(0,1)=1");
         run("stair 0;", "fill(0,200,200,200,200,200,200,200,200,200,200,200,200,200,200,200,200,200,200,200,200,200,200,200,200,200,200,200,200,200,200,200,200,200,200,200,200,200,200,200,77) judge(0,0)=39 judge(0,1)=1 perform(0)=39 count(6)=39");
+        run("stair 0;", "fill(0,77) numbers(1,0,0) judge(0,1)=1 judge(1,1)=0 judge(1,0)=-1 perform(0)=0 judge(1,1)=0 judge(0,0)=0");
         about("promise 16: 1 if it is FALLEN then, else 0; behind it nothing can be");
         run(TWO, "fill(0,0) judge(0,0)=-1 judge(0,1)=0 judge(0,2)=2 judge(0,3)=1 fill(0,0,-1) judge(0,0)=1 judge(0,1)=2 judge(0,3)=1 fill(0,0,200) judge(0,1)=2 fill(0,0,1) judge(0,1)=2 fill(0,0,77) judge(0,0)=1 judge(0,1)=1");
         about("promise 16: judged as if done: nothing is");

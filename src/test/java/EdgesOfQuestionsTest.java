@@ -46,6 +46,7 @@ public final class EdgesOfQuestionsTest extends Runs {
         run("stair 10;person on 0 build 11;person on 0 build 10;bears : build - age;", "holds(1)=1 holds(2)=1 days(1)=1 holds(1)=1 holds(2)=0 days(1)=1 holds(1)=0 holds(2)=0 holds(3)=1");
         run(GRUDGE, "stands()=0 holds(3)=0 holds(1)=1 holds(2)=1 holds(0)=0");
         run("stair 7;person on 0 build 2;person on 0 build 3;couple 0 1;bears : build + wed;", "stands()=1 holds(3)=1 holds(1)=0 holds(2)=0");
+        run("stair 8;person on 0 build 2;person on 0 build 3;couple 0 1;bears : build + wed;", "stands()=0 holds(3)=0");
     }
 
     private static void fewest() {
@@ -115,6 +116,20 @@ public final class EdgesOfQuestionsTest extends Runs {
         run("stair 0;" + "person on 0 build 1 by 7;".repeat(9), "served(0)=8 served(1)=255");
         run("stair 0;" + "person on 0 build 1 by 8;".repeat(9), "served(0)=9 served(1)=511");
         run("stair 0;" + "person on 0 build 1 by 0;".repeat(9) + "quota 9;", "served(0)=9 served(1)=511");
+        about("SERVING: by their days, in whatever order they are told");
+        run(byDays(2, 1, 0), "served(0)=3 served(1)=7");
+        run(byDays(0, 2, 1), "served(0)=3 served(1)=7");
+        run(byDays(1, 2, 0), "served(0)=3 served(1)=7");
+        run(byDays(1, 1, 1), "served(0)=2 served(1)=3");
+        run(byDays(3, 0, 3, 1, 1), "served(0)=4 served(1)=15");
+        run(byDays(5, 4, 3, 2, 1, 0), "served(0)=6 served(1)=63");
+        run(byDays(5, 4, 3, 2, 1, 1), "served(0)=6 served(1)=63");
+        run(byDays(5, 4, 3, 1, 1, 1), "served(0)=5 served(1)=31");
+        run(byDays(1, 1, 0, 0) + "couple 0 1;couple 2 3;quota 2;", "served(0)=4 served(1)=15");
+        run(byDays(0, 1, 0, 1) + "couple 0 1;couple 2 3;quota 2;", "served(0)=3 served(1)=11");
+        run(byDays(2, 2, 0, 0, 1, 1) + "couple 0 1;couple 2 3;couple 4 5;quota 2;", "served(0)=6 served(1)=63");
+        run(byDays(2, 2, 1, 1, 1, 1) + "couple 0 1;couple 2 3;couple 4 5;quota 2;", "served(0)=6 served(1)=63");
+        run(byDays(2, 2, 1, 1, 1, 1, 0) + "couple 0 1;couple 2 3;couple 4 5;quota 3;", "served(0)=7 served(1)=127");
         about("SERVING: those SEEN today counted");
         run("stair 0;" + ON + "person on 0 build 1 by 0;person on 0 build 1 by 1;", "served(1)=6 see(0)=2 served(0)=1 served(1)=4 days(1)=1 served(1)=4");
         run("stair 0;" + ON + "person on 0 build 1 by 0;person on 0 build 1 by 0;quota 2;", "served(1)=6 see(0)=2 served(1)=2 undo(1)=0 served(1)=6");
@@ -125,6 +140,13 @@ public final class EdgesOfQuestionsTest extends Runs {
         run("stair 5;person on 0 build 5 by 3;person on 0 build 5 by 3;", "served(0)=1 served(1)=1");
         run("stair 5;person on 0 build 5 by 3;person on 0 build 4 by 3;", "served(0)=1 served(1)=2");
         run("stair 5;person on 0 build 5;person on 0 build 4 by 3;", "served(0)=1 served(1)=2 see(1)=1 served(0)=0");
+    }
+
+    /** One on the step for each day by which one wants to be seen. */
+    private static String byDays(int... days) {
+        StringBuilder text = new StringBuilder("stair 0;");
+        for (int by : days) text.append("person on 0 build 1 by ").append(by).append(';');
+        return text.toString();
     }
 
     private static void couplesServed() {
@@ -141,6 +163,8 @@ public final class EdgesOfQuestionsTest extends Runs {
         run("stair 0;person on 0 build 1 by 1;person on 0 build 1 by 0;couple 0 1;", "see(0)=1 served(0)=0 undo(1)=0 see(1)=1 served(0)=1 served(1)=1");
         run("stair 0;person on 0 build 1 by 6;person on 0 build 1 by 5;couple 0 1;day 6;quota 2;", "served(0)=1 served(1)=1");
         String eight = "person on 0 build 1 by 3;".repeat(8) + "couple 0 1;couple 2 3;couple 4 5;couple 6 7;";
+        run("stair 0;" + eight + "person on 0 build 1 by 3;quota 2;", "served(0)=8 served(1)=255");
+        run("stair 0;" + eight + "person on 0 build 1 by 4;quota 2;", "served(0)=9 served(1)=511");
         run("stair 0;" + eight + "quota 1;", "served(0)=4 served(1)=85");
         run("stair 0;" + eight + "quota 2;", "served(0)=8 served(1)=255");
         run("stair 0;" + eight.replace("by 3", "by 2") + "quota 2;", "served(0)=6 served(1)=63");
@@ -162,6 +186,7 @@ public final class EdgesOfQuestionsTest extends Runs {
         run("stair 20;person on 0 build 99;bears : 20 - (build - 7) * (build - 7);", "instead(0)=7");
         run("stair 2;" + ON + "bears : who;", "stands()=0 instead(0)=-1 bring(0,0)!-12");
         run("stair 1;" + ON + "bears : who;", "instead(0)=0");
+        run("stair 50;person on 0 build 60;bears : build - age - wed;", "instead(0)=50 swap(50)=0 swap(49)=-1 days(5)=5 instead(0)=50");
     }
 
     private static void swap() {
@@ -176,6 +201,8 @@ public final class EdgesOfQuestionsTest extends Runs {
         run("stair 4;person on 0 build 3;person on 0 build 2;person on 0 build 2;", "swap(0)=1 swap(1)=1");
         run("stair 6;person on 0 build 3;person on 0 build 2;person on 0 build 2;", "swap(0)=-1 swap(1)=1");
         run(null, "swap(0)=-1 swap(99)=-1 swap(100)!-3");
+        run("stair 5;person on 0 build 5 age 0;bears : build - age;", "swap(5)=0 swap(4)=-1");
+        run("stair 5;person on 0 build 5;day 6;bears : build + day - 6;", "swap(5)=0 swap(4)=-1");
         run("stair 0;" + ON, "see(0)=0 swap(5)=-1");
     }
 
@@ -243,6 +270,9 @@ public final class EdgesOfQuestionsTest extends Runs {
         run("stair 9 9;", "stay(8)=0 stay(9)=0 stay(99)=0");
         run("stair 0 9;", "stay(8)=0 stay(9)=1 stay(99)=1");
         run("stair 0 0 0 0 0 0 0 9;", "stay(9)=7 stay(8)=0");
+        run("stair 0 9;bears : build - wed;", "stay(9)=1 where(9)=1 stay(8)=0");
+        run("stair 0 9;person on 1 build 0;bears : age * 9 * (1 - who) + build * who;", "sinks()=0 stay(9)=1 stay(8)=0");
+        run("stair 3 3;person on 1 build 1;person on 0 build 1;day 3;bears : (1 - who) * (5 - age) + who * day;", "sinks()=3 stay(0)=1");
         about("more than 99 DAYS are as long");
         String aging = "stair 1 1;person on 0 build 99;person on 1 build 98;bears : build - age + ";
         run(aging + "0;", "sinks()=98 stay(99)=1 stay(98)=0");
@@ -270,6 +300,7 @@ public final class EdgesOfQuestionsTest extends Runs {
         about("ROOMS: builds 0 to 99 by TRIALS");
         run(TRIED, "fill(0,1) builds(0,0)=99 fill(0,0) builds(0,0)=1 fill(0,2) builds(0,0)=100 fill(0,3) builds(0,0)=0 fill(0,0,1) builds(0,0)=0 fill(0,1,4) builds(0,0)=10 fill(0,1,5) builds(0,0)=89 fill(0,12) builds(0,0)=20 fill(0,13) builds(0,0)=80");
         run(TRIED.replace("stair 20", "stair 118"), "fill(0,1) builds(0,0)=1 fill(0,0) builds(0,0)=99");
+        run("stair 20;person on 0 build 5;person on 0 build 30;couple 0 1;bears : build + wed * 3;", "fill(0,3) builds(0,1)=80 bound(0,1,0)=20 fill(0,1) builds(0,1)=91 bound(0,1,0)=9 fill(0,2) builds(0,1)=20 fill(0,5) builds(0,1)=0");
         run(TRIED.replace("stair 20", "stair 119"), "fill(0,1) builds(0,0)=0 fill(0,0) builds(0,0)=100");
     }
 
@@ -292,6 +323,7 @@ public final class EdgesOfQuestionsTest extends Runs {
         run("stair 0;" + ON + ON, "fill(0,1) trial(0,0)=1 trial(0,1)=0 see(1)=1 trial(0,0)=-1 trial(0,1)!-5");
         about("promise 33: the lesser number is greatest, the first");
         run(NINE, "fill(0,1) trial(0,0)=1 trial(0,1)=0 trial(0,8)=0");
+        run("stair 1;person on 0 build 5;person on 0 build 0;person on 0 build 1;", "fill(0,1) builds(0,0)=100 trial(0,0)=2");
         run(TRIED, "fill(0,1) trial(0,0)=1 fill(0,1,4) trial(0,0)=2 fill(0,1,4,8) trial(0,0)=1");
     }
 
@@ -314,6 +346,7 @@ public final class EdgesOfQuestionsTest extends Runs {
         run("stair 0;" + ON + ON + "may : who = 0;", "see(0)=1 see(1)!-13 wins()=1 best()=1 lasts()=1 days(1)=1 see(1)!-14 wins()=1");
         about("promise 35: the first PERSON by whom it wins");
         run("stair 5;person on 0 build 4;person on 0 build 1;person on 0 build 5;", "wins()=1 best()=2 lasts()=2");
+        run("stair 5;person on 0 build 4;person on 0 build 1;person on 0 build 5;", "best()=2 holdings()=5 best()=2 lasts()=2 holdings()=5 wins()=1");
         about("promise 36: wins by as few as can be, loses by as many as can be");
         run("stair 3;" + ON.repeat(3) + "person on 0 build 3;", "wins()=1 best()=0 lasts()=2");
         run("stair 3;" + ON.repeat(2) + "person on 0 build 3;", "wins()=0 best()=-1 lasts()=3");
@@ -377,6 +410,8 @@ public final class EdgesOfQuestionsTest extends Runs {
         run("stair 5 5;person on 0 build 5 frail 5;person on 1 build 5 frail 5;", "where(5)=0");
         run("stair 5 5;person on 0 build 5 frail 5;person on 1 build 5 frail 6;", "where(5)=1");
         run("stair 5 5;", "where(99)=0 where(0)=0");
+        run("stair 5 5;person on 0 build 5 frail 1;person on 1 build 5 frail 5;bears : build - age;", "where(5)=1 where(4)=0");
+        run("stair 5 5;person on 0 build 5 frail 10;person on 1 build 5;", "where(5)=0 tell(0)=3 where(5)=1 where(5)=1", "stair 5 5;person on 0 build 5 frail 1;person on 1 build 5 frail 5;");
         run("stair 0 0 0 0 0 0 0 9;", "where(8)=0 where(9)=7");
         run("stair 0 5;person on 1 build 5;", "where(9)=0");
     }

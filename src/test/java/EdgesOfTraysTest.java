@@ -77,6 +77,8 @@ public final class EdgesOfTraysTest extends Runs {
         run(THREE, "numbers(0,0,3) lists(0)=3 judge(0,0)=0 judge(0,1)=1");
         run("stair 0;" + ON + "bears : 256;", "numbers(0,0,1) lists(0)=1 judge(0,1)=0 judge(0,2)=0 numbers(0,1,1) lists(0)=1 judge(0,1)=1");
         run("stair 0;" + ON + "bears : 255;", "numbers(0,0,1) lists(0)=1 judge(0,1)=0 judge(0,2)=1 numbers(0,1,1) lists(0)=1 judge(0,1)=1");
+        about("promise 43: what STEPS BEAR today");
+        run("stair 0;" + ON + "bears : 200 + age;", "step(0,1)=200 numbers(0,3,1) lists(0)=1 judge(0,1)=0 days(1)=1 lists(0)=1 judge(0,1)=1");
         about("promise 43: nothing else changes");
         run("stair 0;", "numbers(0,3,0) lists(0)!0 count(10)=0");
     }
