@@ -83,6 +83,8 @@ public final class EdgesOfTextsTest extends Runs {
         slip(2, "stair 5;" + blanks.substring(0, 891) + "|x");
         slip(1, "stair 5;" + blanks.substring(0, 891) + "|X");
         slip(2, "stair 5" + blanks.substring(0, 893) + "|");
+        slip(2, "|" + ";".repeat(900));
+        slip(2, "stair 5;|" + ";".repeat(892));
         String law = "stair 0;person on 0 build 1;bears : 1" + "+1".repeat(431) + ";";
         due("its length", law.length(), 900);
         run(law, "person(0,7)=432 count(12)=3");
