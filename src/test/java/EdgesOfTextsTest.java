@@ -36,6 +36,16 @@ public final class EdgesOfTextsTest extends Runs {
         run(RICH, DONE + "tell(0)~" + (-30 - kind) + " fault(0)=" + kind + " fault(1)=" + place + " count(11)=0", text);
     }
 
+    /** The tape has more than the text, which ends at '|': where it is cut too early, there is the fault. */
+    private static void cutAt(String marked, int want) {
+        int n = marked.indexOf('|');
+        LeanStair x = new LeanStair();
+        feed(x, marked.replace("|", ""));
+        due("stair(" + n + ") of '" + marked + "'", x.stair(n), want);
+        due("fault(1) of '" + marked + "'", x.fault(1), want < 0 ? n : -1);
+        due("count(11) of '" + marked + "'", x.count(11), 0);
+    }
+
     private static void newObject() {
         about("promise 1: 1 STEP of LOAD 0, no PEOPLE");
         run(null, "count(0)=1 count(1)=0 count(2)=0 count(3)=0 count(4)=0 count(5)=1 count(6)=0 count(7)=0 count(8)=0 count(9)=0 count(10)=0 count(11)=0 count(12)=0");
@@ -100,11 +110,21 @@ public final class EdgesOfTextsTest extends Runs {
         run(null, "feed(1937006953,1914713915,1713411890,538976288,538976288) stair(9)=-32 fault(1)=8 count(11)=0");
         run(null, "feed(1937006953,1914713915,538976288,538976288,538976288) stair(7)=-32 fault(1)=7 count(11)=0 step(0,0)=0");
         run(RICH, "stair(0)~-32 fault(0)=2 fault(1)=0 count(11)=0");
+        cutAt("stair 1;|2", 1);
+        cutAt("stair |12;", -32);
+        cutAt("stair 1|2;", -32);
+        cutAt("stair 1;day|s 1;", -32);
+        cutAt("stair 1;day| 1;", -32);
+        cutAt("stair 1;quota 9|9;", -32);
+        cutAt("stair 1;day 999|9;", -32);
+        cutAt("stair 1;day 99|; ?", -32);
+        cutAt("stair 1;day 99;|?", 2);
 
         about("promise 3: all are there, no PROPS, nothing can be UNDONE");
         run(RICH, DONE + "count(10)=4 tell(0)=3 count(2)=3 count(6)=0 count(10)=0 count(4)=0 count(7)=0 count(5)=1 count(3)=0 undo(1)!-3 person(0,6)=1 person(0,4)=-1 person(0,5)=-1 step(1,0)!-2",
             "stair 1;person on 0 build 1;person on 0 build 0;");
         run(NINE, "count(2)=511 count(1)=9");
+        run("stair 0 0 0 0 0 0 0 0;", "prop(0) prop(1) prop(2) prop(3) prop(4) prop(5) prop(6) prop(7) count(6)=8 tell(0)=1 count(6)=0 step(0,2)=0 step(7,2)=0 step(0,1)=0 count(9)=0", "stair 0 0 0 0 0 0 0 0;");
 
         about("promise 3: FALLEN if it doesn't STAND");
         run("stair 5;person on 0 build 5;", "count(3)=0 stands()=1");
