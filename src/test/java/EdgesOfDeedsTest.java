@@ -352,6 +352,12 @@ public final class EdgesOfDeedsTest extends Runs {
         deed(WIDE, (1L << 32) - 1, 1);
         deed(WIDE, Long.MAX_VALUE, 1);
         deed(WIDE, Long.MIN_VALUE, 1);
+        for (int v = 10; v < 100; v++) deed("stair 0 0 0;person on 1 build 1;person on 1 build 1;", v, 1);
+        for (int v = 210; v < 256; v++) deed(WIDE, v, 1);
+        deed(WIDE, -(1L << 32), 1);
+        deed("stair 0 0;" + ON + "person on 1 build 1;", -(1L << 32) + 116, 1);
+        deed("stair 0 0;" + ON + "person on 1 build 1;", (1L << 32) + 114, 1);
+        deed(WIDE, -(1L << 32) + 200, 1);
         run(WIDE, "fill(0,-1,-1) perform(0)=2 count(7)=2");
         about("DEEDS: why one can't be: 3 the quota, 4 the law may");
         run("stair 0;" + ON.repeat(3), "fill(0,0,1) judge(0,0)=1 judge(0,1)=3 fill(0,0,-1,1,0) judge(0,0)=3 judge(0,1)=2 judge(0,2)=4");

@@ -273,6 +273,13 @@ public final class EdgesOfQuestionsTest extends Runs {
         run("stair 0 9;bears : build - wed;", "stay(9)=1 where(9)=1 stay(8)=0");
         run("stair 0 9;person on 1 build 0;bears : age * 9 * (1 - who) + build * who;", "sinks()=0 stay(9)=1 stay(8)=0");
         run("stair 3 3;person on 1 build 1;person on 0 build 1;day 3;bears : (1 - who) * (5 - age) + who * day;", "sinks()=3 stay(0)=1");
+        run("stair 9 9;joint 0 takes 99;person on 0 build 9;", "stands()=0 stay(9)=0 stay(8)=0");
+        run("stair 9 9 9;joint 1 takes 99;person on 0 build 9;person on 1 build 9;", "stands()=0 stay(9)=1 where(9)=1 stay(8)=0");
+        // Step 0 lacks on days that are 2 modulo 7, step 1 on those that are 1: who comes to step 1 falls a day later.
+        String byTurns = "stair 10 10;person on 0 build 0;person on 1 build 0;bears : (1 - who) * (2 - who) * 5 * (day - %) * (day - %)"
+            + " + who * (2 - who) * 10 * (day - #) * (day - #) + who * (who - 1) * 5;day ";
+        run(byTurns.replace('%', '2').replace('#', '1') + "6;", "stands()=1 sinks()=2 stay(5)=1 bring(1,5)=2 sinks()=3 undo(1)=0 bring(0,5)=2 sinks()=2");
+        run(byTurns.replace('%', '1').replace('#', '2') + "5;", "stands()=1 sinks()=3 stay(5)=0 bring(0,5)=2 sinks()=4 undo(1)=0 bring(1,5)=2 sinks()=3");
         about("more than 99 DAYS are as long");
         String aging = "stair 1 1;person on 0 build 99;person on 1 build 98;bears : build - age + ";
         run(aging + "0;", "sinks()=98 stay(99)=1 stay(98)=0");
@@ -414,5 +421,9 @@ public final class EdgesOfQuestionsTest extends Runs {
         run("stair 5 5;person on 0 build 5 frail 10;person on 1 build 5;", "where(5)=0 tell(0)=3 where(5)=1 where(5)=1", "stair 5 5;person on 0 build 5 frail 1;person on 1 build 5 frail 5;");
         run("stair 0 0 0 0 0 0 0 9;", "where(8)=0 where(9)=7");
         run("stair 0 5;person on 1 build 5;", "where(9)=0");
+        run("stair 5 5;joint 0 takes 99;person on 0 build 5;person on 0 build 5 frail 5;", "where(5)=0 where(4)=0");
+        run("stair 1 1;person on 0 build 1 frail 1;person on 1 build 1 frail 5;", "where(1)=1 where(0)=0");
+        // On step 1 it helps in three cases, of 75, 75 and 75 in 1,000, on step 0 in one of 175.
+        run("stair 5 5;person on 0 build 5 frail 5;person on 0 build 5 frail 5;person on 1 build 5 frail 3;", "where(5)=1 chance(0)=21 chance(1)=40");
     }
 }

@@ -93,6 +93,16 @@ public final class EdgesOfTextsTest extends Runs {
         slip(2, "stair 5;" + blanks.substring(0, 891) + "|x");
         slip(1, "stair 5;" + blanks.substring(0, 891) + "|X");
         slip(2, "stair 5" + blanks.substring(0, 893) + "|");
+        for (String word : "s stai jo joint person pe c quot bears ma d day".split(" ")) {
+            String end = ("stair 5;" + blanks).substring(0, 900 - word.length());
+            boolean line = "joint person bears day".contains(word) && word.length() > 2;
+            slip(2, line ? end + word + "|" : end + "|" + word);
+        }
+        slip(2, ("stair 5;may:wait>9 and" + blanks).substring(0, 898) + "|wa");
+        slip(2, ("stair 5;may:wait>9 and" + blanks).substring(0, 896) + "wait|");
+        slip(2, ("stair 5;bears:build-1*" + blanks).substring(0, 898) + "|st");
+        slip(2, ("stair 5;day" + blanks).substring(0, 897) + "999|");
+        slip(1, ("stair 5;day" + blanks).substring(0, 896) + "|9999");
         slip(2, "|" + ";".repeat(900));
         slip(2, "stair 5;|" + ";".repeat(892));
         String law = "stair 0;person on 0 build 1;bears : 1" + "+1".repeat(431) + ";";
@@ -387,6 +397,13 @@ public final class EdgesOfTextsTest extends Runs {
         slip(4, "stair 0;bears : 1 + ((((((1 * |(");
         slip(4, "stair 0;may : not not not not not not |not 1 = 1;");
         slip(4, "stair 0;may : [[[[[[|[1 = 1]]]]]]];");
+        slip(4, "stair 0;may : [[[[[[1 = 1 or |[1 = 1]]]]]]];");
+        slip(4, "stair 0;may : [[[[[[1 = 1 and |[1 = 1]]]]]]];");
+        slip(4, "stair 0;may : [[[[[[1 = 1 or 1 = 1 and |not 1 = 1]]]]]];");
+        slip(4, "stair 0;may : [[[[[[1 = 1 or |not 1 = 1]]]]]];");
+        slip(4, "stair 0;may : [[[[[[1 = 1 and 1 < 2 + 3 * |(1)]]]]]];");
+        slip(4, "stair 0;may : not [1 = 1 or not [1 = 1 and not [1 = 1 or |not 1 = 1]]];");
+        slip(4, "stair 0;bears : 1 + (1 - (1 * (1 + (1 - (1 * (1 + |(1)))))));");
         about("not [ ( behind one another aren't within one another");
         whole("stair 0;bears : ((((((1)))))) + ((((((2)))))) * ((((((3))))));");
         whole("stair 0;may : not not not not not not 1 = 1 and not not not not not not 1 = 1 or not not not not not not 1 = 1;");

@@ -9,7 +9,9 @@ import java.nio.file.Path;
 import java.util.ArrayList;
 import java.util.Arrays;
 import java.util.List;
+import java.util.Map;
 import java.util.Set;
+import java.util.TreeMap;
 import java.util.TreeSet;
 import java.util.regex.Matcher;
 import java.util.regex.Pattern;
@@ -35,6 +37,7 @@ public final class LanguageTest {
         face();
         classes();
         source(Files.readString(Path.of("src/main/java/LeanStair.java")));
+        depth(Files.readString(Path.of("src/main/java/LeanStair.java")));
         room();
         System.out.println(wrong == 0 ? "the language is kept to" : wrong + " things are not so");
         if (wrong != 0) System.exit(1);
@@ -106,6 +109,49 @@ public final class LanguageTest {
                 from = -1;
             }
         }
+    }
+
+    /** Calls that are no recursion go at most eight deep; methods of like name in several classes count as one. */
+    private static void depth(String text) {
+        String bare = text.replaceAll("(?s)/\\*.*?\\*/", " ").replaceAll("//[^\n]*", " ").replaceAll("\"[^\"\n]*\"", "\"\"");
+        Map<String, Set<String>> calls = new TreeMap<>();
+        Pattern head = Pattern.compile("    (?:    )?(?:[\\w\\[\\]]+ )+(\\w+)\\([^()]*\\) \\{");
+        String method = null;
+        for (String line : bare.split("\n")) {
+            Matcher m = head.matcher(line);
+            if (m.matches()) {
+                method = m.group(1);
+                calls.putIfAbsent(method, new TreeSet<>());
+            } else if (method != null) {
+                Matcher call = Pattern.compile("\\b(\\w+)\\(").matcher(line);
+                while (call.find()) calls.get(method).add(call.group(1));
+            }
+        }
+        for (Set<String> called : calls.values()) called.retainAll(calls.keySet());
+        Map<String, Set<String>> reached = new TreeMap<>();
+        for (String name : calls.keySet()) reach(name, calls, reached.computeIfAbsent(name, k -> new TreeSet<>()));
+        int methods = 0;
+        int deepest = 0;
+        for (String name : calls.keySet()) {
+            methods++;
+            deepest = Math.max(deepest, deep(name, calls, reached, new TreeMap<>()));
+        }
+        must(methods > 100 && deepest > 4 && deepest <= 8, "eight deep: " + deepest + " of " + methods + " methods");
+    }
+
+    private static void reach(String name, Map<String, Set<String>> calls, Set<String> found) {
+        for (String next : calls.get(name)) if (found.add(next)) reach(next, calls, found);
+    }
+
+    private static int deep(String name, Map<String, Set<String>> calls, Map<String, Set<String>> reached, Map<String, Integer> known) {
+        if (known.containsKey(name)) return known.get(name);
+        Set<String> circle = new TreeSet<>(Set.of(name));
+        for (String other : reached.get(name)) if (reached.get(other).contains(name)) circle.add(other);
+        int below = 0;
+        for (String one : circle)
+            for (String next : calls.get(one)) if (!circle.contains(next)) below = Math.max(below, deep(next, calls, reached, known));
+        known.put(name, below + 1);
+        return below + 1;
     }
 
     /** Only a text that is read makes objects; all else uses what the constructor made. */
